@@ -2,6 +2,7 @@
 public final class MatchesTest {
     public static void main(String[] args) {
         oneLayer();
+        eachCallLooksAnew();
         likeOnes();
         likeBlocks();
         noSecond();
@@ -33,6 +34,32 @@ public final class MatchesTest {
         x.points(1);
         Due.is("SOUTH begins", x.begins(), 0b1010);
         Due.is("SOUTH many", x.many(), 3);
+    }
+
+    /** Each call is the first behind a change, so none may lean on what another found. */
+    private static void eachCallLooksAnew() {
+        PoleRecords x = Due.with(new int[] {5, 6, 7, 8}, new int[] {7});
+        Due.is("from(0)", x.from(0), 2);
+        x.sets(1, 0, 9);
+        Due.is("from(0)", x.from(0), 4);
+        x.sets(1, 0, 4);
+        Due.is("match(0, 0)", x.match(0, 0), 1);
+        x.bound(0, 5, 7);
+        Due.is("many", x.many(), 1);
+        x.bound(0, 0, 1);
+        Due.is("alike", x.alike(), 1);
+        x.points(1);
+        Due.is("begins", x.begins(), 0b1010);
+        x.points(0);
+        Due.is("block", x.block(1, 0), 1);
+        x.judge(1, 2);
+        Due.is("unbound", x.unbound(), 6);
+        x.judge(1, 1);
+        Due.is("from(2)", x.from(2), 3);
+        x.unbound();
+        x.mildest(0);
+        x.bound(1, 4, 7);
+        Due.is("many", x.many(), 2);
     }
 
     /** All SPANS alike: the least first SPAN, then the next one. */

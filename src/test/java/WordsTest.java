@@ -6,6 +6,7 @@ public final class WordsTest {
         typing();
         goodTexts();
         faults();
+        nothingIsLeftOver();
         faultChangesNothing();
         mostNumbers();
         telling();
@@ -68,12 +69,34 @@ public final class WordsTest {
             {"years 1;core north 1", 20}, {"years 1;core north 1;;", 21}, {"years 1;core north 1;  x", 23},
             {"years 1;core north 1; 5", 22}, {"years 1;core south 1;years", 21}, {"ye ars 1;", 0},
             {"years 1;core so uth 1;", 13}, {"years 1 \0 2;", 8}, {"\0", 0}, {"years 1;core north 1;\0", 21},
+            {"yearsa 1;", 0}, {"yearsz 1;", 0}, {"yearsA 1;", 0}, {"yearsZ 1;", 0}, {"years`1;", 5}, {"years{1;", 5},
+            {"years@1;", 5}, {"years[1;", 5}, {"years/1;", 5}, {"years:1;", 5}, {"years 9/", 7}, {"years 9:", 7},
         };
         for (Object[] d : due) {
             PoleRecords x = new PoleRecords();
             Due.types(x, (String) d[0]);
             Due.is("reads '" + d[0] + "'", x.reads(), -10 - (Integer) d[1]);
         }
+    }
+
+    /** What an earlier TEXT or reading told must not shine through. */
+    private static void nothingIsLeftOver() {
+        PoleRecords x = new PoleRecords();
+        Due.types(x, "years 1 2;core south 1 2;");
+        Due.is("reads", x.reads(), 4);
+        Due.types(x, "years 1;core north 3;");
+        Due.is("reads", x.reads(), 2);
+        Due.is("NORTH again", x.told(6), 0);
+        Due.is("THICKNESS", x.sets(1, 0, 3), 3);
+        Due.types(x, "years 1");
+        Due.is("the old ; is gone", x.reads(), -17);
+        Due.types(x, "years 1;core north 1");
+        Due.types(x, "year");
+        Due.is("the old s is gone", x.reads(), -10);
+        Due.types(x, "years 12");
+        Due.types(x, "years 1");
+        x.type(';');
+        Due.is("the old 2 is gone", x.reads(), -18);
     }
 
     private static void faultChangesNothing() {
