@@ -1,177 +1,112 @@
-import java.util.List;
 import java.util.Random;
 
-/** Promises 7 to 22 on many drawn states, against a walk through all MATCHES. */
+/** Promises 7 to 22 on many drawn states, against PlainRecords, which walks through all MATCHES. */
 public final class AgainstModelTest {
+    private static final int STATES = 1500;
+
     public static void main(String[] args) {
         Random random = new Random(20261118);
-        for (int run = 0; run < 1500; run++) {
-            PlainModel m = new PlainModel();
+        for (int state = 0; state < STATES; state++) {
             PoleRecords x = new PoleRecords();
-            fillBoth(random, m, x);
-            judgeBoth(random, m, x);
-            compare("run " + run + " ", m, x);
+            PlainRecords due = new PlainRecords();
+            fillBoth(random, x, due);
+            judgeBoth(random, x, due);
+            Due.says("state " + state);
+            int spans = x.told(4);
+            int layers = x.told(5);
+            compareMatches(x, due, spans, layers);
+            compareMisfits(x, due, spans, layers);
+            compareAges(x, due, layers);
+            Due.is("digest", x.digest(), due.digest());
         }
         Due.end();
     }
 
-    private static void fillBoth(Random random, PlainModel m, PoleRecords x) {
+    private static void fillBoth(Random random, PoleRecords x, PlainRecords due) {
         int seed = random.nextInt(1000000);
         int n = 1 + random.nextInt(16);
         if (random.nextInt(3) == 0) {
-            Due.is("draw", x.draw(seed, n), m.draw(seed, n));
+            Due.is("draw", x.draw(seed, n), due.draw(seed, n));
         } else {
             int most = new int[] {2, 4, 12, 99}[random.nextInt(4)];
             int layers = random.nextInt(Math.min(n, 8) + 1);
             for (int k = 0; k < n; k++) {
-                m.spans.add(1 + random.nextInt(most));
-                x.span(m.spans.get(k));
+                int years = 1 + random.nextInt(most);
+                Due.is("span", x.span(years), due.span(years));
             }
             for (int k = 0; k < layers; k++) {
-                m.layers.add(1 + random.nextInt(Math.min(99, 2 * most)));
-                x.layer(m.layers.get(k));
+                int thickness = 1 + random.nextInt(Math.min(99, 2 * most));
+                Due.is("layer", x.layer(thickness), due.layer(thickness));
             }
         }
-        m.south = random.nextInt(2);
-        x.points(m.south);
+        int south = random.nextInt(2);
+        Due.is("points", x.points(south), due.points(south));
     }
 
-    private static void judgeBoth(Random random, PlainModel m, PoleRecords x) {
-        m.kind = random.nextInt(4);
-        m.pace = random.nextInt(3) == 0 ? 1 + random.nextInt(9) : 1;
-        m.penalty = random.nextInt(2) == 0 ? random.nextInt(100) : random.nextInt(4);
-        x.judge(0, m.kind);
-        x.judge(1, m.pace);
-        x.judge(2, m.penalty);
+    private static void judgeBoth(Random random, PoleRecords x, PlainRecords due) {
+        int[] settings = {random.nextInt(4), random.nextInt(3) == 0 ? 1 + random.nextInt(9) : 1,
+            random.nextInt(2) == 0 ? random.nextInt(100) : random.nextInt(4)};
+        for (int what = 0; what < 3; what++) {
+            Due.is("judge", x.judge(what, settings[what]), due.judge(what, settings[what]));
+        }
+        boundBoth(random, x, due, 0, random.nextInt(4), 1 + random.nextInt(9));
+        boundBoth(random, x, due, 1, 1 + random.nextInt(9), 1 + random.nextInt(4));
+    }
+
+    private static void boundBoth(Random random, PoleRecords x, PlainRecords due, int which, int a, int b) {
         if (random.nextInt(2) == 0) {
-            m.lowA = random.nextInt(4);
-            m.lowB = 1 + random.nextInt(9);
-            x.bound(0, m.lowA, m.lowB);
-        }
-        if (random.nextInt(2) == 0) {
-            m.highA = 1 + random.nextInt(9);
-            m.highB = 1 + random.nextInt(4);
-            x.bound(1, m.highA, m.highB);
+            Due.is("bound", x.bound(which, a, b), due.bound(which, a, b));
         }
     }
 
-    private static void compare(String run, PlainModel m, PoleRecords x) {
-        List<PlainModel.Laid> all = m.all(m.kind);
-        Due.is(run + "many", x.many(), all.size());
-        Due.is(run + "alike", x.alike(),
-            all.isEmpty() ? -3 : all.stream().filter(l -> l.misfit() == all.get(0).misfit()).count());
-        compareOne(run, m, x, all, 0);
-        compareOne(run, m, x, all, 1);
-        compareFrom(run, m, x, all);
-        compareMildest(run, m, x);
-        compareMisfits(run, m, x);
-        if (!all.isEmpty()) {
-            compareAges(run, m, x, all.get(0));
-        }
-        m.lowA = 0;
-        m.highA = 99;
-        m.highB = 1;
-        List<PlainModel.Laid> unbound = m.all(m.kind);
-        Due.is(run + "unbound", x.unbound(), unbound.isEmpty() ? -1 : unbound.get(0).misfit());
-    }
-
-    private static void compareOne(String run, PlainModel m, PoleRecords x, List<PlainModel.Laid> all, int which) {
-        if (all.size() <= which) {
+    private static void compareMatches(PoleRecords x, PlainRecords due, int spans, int layers) {
+        Due.is("many", x.many(), due.many());
+        Due.is("alike", x.alike(), due.alike());
+        Due.is("begins", x.begins(), due.begins());
+        Due.is("unbound", x.unbound(), due.unbound());
+        for (int which = 0; which < 2; which++) {
             for (int what = 0; what < 4; what++) {
-                Due.is(run + "match NO", x.match(which, what), -3);
+                Due.is("match(" + which + ", " + what + ")", x.match(which, what), due.match(which, what));
             }
-            return;
-        }
-        PlainModel.Laid laid = all.get(which);
-        int length = 0;
-        for (int j = 0; j < m.layers.size(); j++) {
-            Due.is(run + "block(" + which + ", " + j + ")", x.block(which, j), laid.block(j));
-            length += laid.block(j);
-        }
-        Due.is(run + "MISFIT", x.match(which, 0), laid.misfit());
-        Due.is(run + "first", x.match(which, 1), laid.first());
-        Due.is(run + "MISSED", x.match(which, 2), (length - m.layers.size()) / 2);
-        Due.is(run + "behind", x.match(which, 3), laid.first() + length);
-    }
-
-    private static void compareFrom(String run, PlainModel m, PoleRecords x, List<PlainModel.Laid> all) {
-        int bits = 0;
-        for (int i = 0; i < m.spans.size(); i++) {
-            final int first = i;
-            long least = all.stream().filter(l -> l.first() == first).mapToLong(PlainModel.Laid::misfit).min().orElse(-1);
-            Due.is(run + "from(" + i + ")", x.from(i), least);
-            bits |= least >= 0 ? 1 << i : 0;
-        }
-        Due.is(run + "begins", x.begins(), bits);
-    }
-
-    private static void compareMildest(String run, PlainModel m, PoleRecords x) {
-        long least = -3;
-        int kind = -3;
-        for (int by = 3; by >= 0; by--) {
-            List<PlainModel.Laid> all = m.all(by);
-            if (!all.isEmpty() && (least < 0 || all.get(0).misfit() <= least)) {
-                least = all.get(0).misfit();
-                kind = by;
+            for (int j = 0; j < layers; j++) {
+                Due.is("block(" + which + ", " + j + ")", x.block(which, j), due.block(which, j));
             }
+            Due.is("mildest(" + which + ")", x.mildest(which), due.mildest(which));
+            Due.is("fastest(" + which + ")", x.fastest(which), due.fastest(which));
         }
-        Due.is(run + "mildest(0)", x.mildest(0), kind);
-        Due.is(run + "mildest(1)", x.mildest(1), least);
+        for (int i = 0; i < spans; i++) {
+            Due.is("from(" + i + ")", x.from(i), due.from(i));
+        }
     }
 
-    private static void compareMisfits(String run, PlainModel m, PoleRecords x) {
-        for (int j = 0; j < m.layers.size(); j++) {
-            for (int i = 0; i < m.spans.size(); i += 3) {
+    private static void compareMisfits(PoleRecords x, PlainRecords due, int spans, int layers) {
+        for (int j = 0; j < layers; j++) {
+            for (int i = 0; i < spans; i += 3) {
                 for (int block = 1; block <= 5; block += 2) {
-                    boolean stands = (m.south + j + i) % 2 == 0 && i + block <= m.spans.size()
-                        && m.allowed(m.layers.get(j), m.years(i, block));
-                    Due.is(run + "misfit", x.misfit(j, i, block),
-                        stands ? m.misfit(m.kind, m.layers.get(j), m.years(i, block), block / 2) : -1);
+                    Due.is("misfit(" + j + ", " + i + ", " + block + ")", x.misfit(j, i, block), due.misfit(j, i, block));
                 }
             }
         }
     }
 
-    private static void compareAges(String run, PlainModel m, PoleRecords x, PlainModel.Laid laid) {
-        int depth = 0;
-        int at = laid.first();
-        int age = m.years(0, at);
-        int fast = 0;
-        int slow = 0;
-        double[] rates = new double[m.layers.size()];
-        if (age > 0) {
-            Due.is(run + "depth above the top", x.depth(age - 1), -1);
+    /** Every few depths and years from the top to beyond the bottom; all calls on one object stay below 512. */
+    private static void compareAges(PoleRecords x, PlainRecords due, int layers) {
+        for (int d = 0; d < 800; d += 1 + d / 4) {
+            Due.is("age(" + d + ")", x.age(d), due.age(d));
+            compareFraction("age(" + d + ")", x, due);
         }
-        for (int j = 0; j < m.layers.size(); j++) {
-            int thickness = m.layers.get(j);
-            int years = m.years(at, laid.block(j));
-            for (int into = 0; into <= thickness; into += 1 + thickness / 3) {
-                isFraction(run + "age", x, x.age(depth + into), (long) age * thickness + (long) into * years, thickness);
-            }
-            for (int into = 0; into <= years; into += 1 + years / 3) {
-                isFraction(run + "depth", x, x.depth(age + into), (long) depth * years + (long) into * thickness, years);
-            }
-            isFraction(run + "rate", x, x.rate(j), thickness, years);
-            rates[j] = thickness / (double) years;
-            fast = rates[j] > rates[fast] ? j : fast;
-            slow = rates[j] < rates[slow] ? j : slow;
-            depth += thickness;
-            age += years;
-            at += laid.block(j);
+        for (int y = 0; y < 1600; y += 1 + y / 4) {
+            Due.is("depth(" + y + ")", x.depth(y), due.depth(y));
+            compareFraction("depth(" + y + ")", x, due);
         }
-        isFraction(run + "bottom's age", x, x.age(depth), age, 1);
-        isFraction(run + "bottom", x, x.depth(age), depth, 1);
-        Due.is(run + "below the bottom", x.age(depth + 1), -2);
-        Due.is(run + "older than the bottom", x.depth(age + 1), age + 1 > 1584 ? -2 : -1);
-        Due.is(run + "fastest", x.fastest(0), fast);
-        Due.is(run + "slowest", x.fastest(1), slow);
+        for (int j = 0; j < layers; j++) {
+            Due.is("rate(" + j + ")", x.rate(j), due.rate(j));
+            compareFraction("rate(" + j + ")", x, due);
+        }
     }
 
-    private static void isFraction(String call, PoleRecords x, int got, long above, long below) {
-        Due.is(call, got, 1);
-        long a = x.part(0);
-        long b = x.part(1);
-        Due.is(call + ", the value", a * below, above * b);
-        Due.is(call + ", lowest terms", b > 0 ? java.math.BigInteger.valueOf(a).gcd(java.math.BigInteger.valueOf(b)).longValue() : 0, 1);
+    private static void compareFraction(String call, PoleRecords x, PlainRecords due) {
+        Due.is(call + ", above", x.part(0), due.part(0));
+        Due.is(call + ", below", x.part(1), due.part(1));
     }
 }

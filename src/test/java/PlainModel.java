@@ -13,6 +13,14 @@ final class PlainModel {
         int block(int j) {
             return choices.get(j + 1);
         }
+
+        int behind() {
+            return choices.stream().mapToInt(v -> v).sum();
+        }
+
+        int missed() {
+            return choices.stream().skip(1).mapToInt(v -> v / 2).sum();
+        }
     }
 
     final List<Integer> spans = new ArrayList<>();
@@ -63,6 +71,44 @@ final class PlainModel {
             : by == 1 ? plain * plain
             : by == 2 ? plain + (long) penalty * pairs
             : 2 * (plain + (long) penalty * pairs);
+    }
+
+    int misfitOrNone(int j, int i, int block) {
+        boolean stands = (south + j + i) % 2 == 0 && i + block <= spans.size()
+            && allowed(layers.get(j), years(i, block));
+        return stands ? (int) misfit(kind, layers.get(j), years(i, block), block / 2) : -1;
+    }
+
+    /** The same with LOW and HIGH as they are at first. */
+    PlainModel unbound() {
+        PlainModel free = new PlainModel();
+        free.spans.addAll(spans);
+        free.layers.addAll(layers);
+        free.south = south;
+        free.kind = kind;
+        free.pace = pace;
+        free.penalty = penalty;
+        return free;
+    }
+
+    /** The top, then where each LAYER ends. */
+    int[] depthsOfTies() {
+        int[] depths = new int[layers.size() + 1];
+        for (int j = 0; j < layers.size(); j++) {
+            depths[j + 1] = depths[j] + layers.get(j);
+        }
+        return depths;
+    }
+
+    int[] agesOfTies(Laid laid) {
+        int[] ages = new int[layers.size() + 1];
+        int at = laid.first();
+        ages[0] = years(0, at);
+        for (int j = 0; j < layers.size(); j++) {
+            ages[j + 1] = ages[j] + years(at, laid.block(j));
+            at += laid.block(j);
+        }
+        return ages;
     }
 
     /** All ALLOWED MATCHES, THE MATCH first. */
