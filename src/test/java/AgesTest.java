@@ -221,13 +221,28 @@ public final class AgesTest {
         x.rate(5);
         x.fastest(0);
         x.match(0, 0);
+        x.block(0, 0);
+        x.misfit(0, 1, 1);
+        Due.fraction("behind refused calls and those that ask", x, 1, 2, 3);
+        x.sets(0, 0, 4);
+        x.sets(1, 0, 7);
+        x.span(6);
+        x.layer(6);
+        x.points(0);
+        x.bound(0, 1, 9);
+        x.judge(0, 2);
+        Due.fraction("behind calls that change one thing", x, 1, 2, 3);
         x.empties(1);
         x.age(0);
         x.depth(9);
         x.draw(7, 7);
         x.reads();
+        Due.types(x, "years 5;core north 5;");
+        Due.is("reads", x.reads(), 2);
+        x.clear();
+        x.empties(0);
         x.digest();
-        Due.fraction("2 by 3", x, 1, 2, 3);
+        Due.fraction("behind calls that change all else", x, 1, 2, 3);
         Due.counts("age and depth", x, 2, 2, 0);
     }
 

@@ -52,60 +52,51 @@ public final class CalendarTest {
 
     private static void spanComes() {
         Due.says("Promise 2: A SPAN comes: its number");
-        PoleRecords x = new PoleRecords();
-        for (int k = 0; k < 16; k++) {
-            Due.is("SPAN " + k, x.span(99 - k), k);
-            Due.is("SPANS", x.told(4), k + 1);
-        }
-        for (int k = 0; k < 16; k++) {
-            Due.is("YEARS of SPAN " + k, x.sets(0, k, 1), 99 - k);
-        }
-        Due.is("LAYERS", x.told(5), 0);
+        comesWithItsNumber(0, 16);
     }
 
     private static void spanBadAndFull() {
         Due.says("Promise 2: BAD; FULL");
-        PoleRecords x = new PoleRecords();
-        int[] bad = {Integer.MIN_VALUE, -1, 0, 100, Integer.MAX_VALUE};
-        for (int years : bad) {
-            Due.is("span(" + years + ")", x.span(years), Due.BAD);
-        }
-        Due.fill(x, Due.times(15, 7), new int[] {});
-        Due.is("the 16th", x.span(7), 15);
-        Due.is("a 17th", x.span(7), Due.FULL);
-        Due.is("a 17th of 100", x.span(100), Due.BAD);
-        x.empties(0);
-        Due.is("room again", x.span(7), 0);
-        Due.counts("span", x, bad.length + 1, 0, 1);
+        comesBadAndFull(0, 16);
     }
 
     private static void layerComes() {
         Due.says("Promise 3: A LAYER comes: its number");
-        PoleRecords x = new PoleRecords();
-        for (int k = 0; k < 8; k++) {
-            Due.is("LAYER " + k, x.layer(99 - k), k);
-            Due.is("LAYERS", x.told(5), k + 1);
-        }
-        for (int k = 0; k < 8; k++) {
-            Due.is("THICKNESS of LAYER " + k, x.sets(1, k, 1), 99 - k);
-        }
-        Due.is("SPANS", x.told(4), 0);
+        comesWithItsNumber(1, 8);
     }
 
     private static void layerBadAndFull() {
         Due.says("Promise 3: BAD; FULL");
+        comesBadAndFull(1, 8);
+    }
+
+    private static void comesWithItsNumber(int what, int most) {
+        PoleRecords x = new PoleRecords();
+        for (int k = 0; k < most; k++) {
+            Due.is("number " + k, Due.comes(x, what, 99 - k), k);
+            Due.is("how many", x.told(4 + what), k + 1);
+        }
+        for (int k = 0; k < most; k++) {
+            Due.is("size of " + k, x.sets(what, k, 1), 99 - k);
+        }
+        Due.is("none of the others", x.told(5 - what), 0);
+    }
+
+    private static void comesBadAndFull(int what, int most) {
         PoleRecords x = new PoleRecords();
         int[] bad = {Integer.MIN_VALUE, -1, 0, 100, Integer.MAX_VALUE};
-        for (int thickness : bad) {
-            Due.is("layer(" + thickness + ")", x.layer(thickness), Due.BAD);
+        for (int size : bad) {
+            Due.is("of " + size, Due.comes(x, what, size), Due.BAD);
         }
-        Due.fill(x, new int[] {}, Due.times(7, 7));
-        Due.is("the 8th", x.layer(7), 7);
-        Due.is("a 9th", x.layer(7), Due.FULL);
-        Due.is("a 9th of 0", x.layer(0), Due.BAD);
-        x.empties(1);
-        Due.is("room again", x.layer(7), 0);
-        Due.counts("layer", x, bad.length + 1, 0, 1);
+        for (int k = 0; k < most; k++) {
+            Due.is("number " + k, Due.comes(x, what, 7), k);
+        }
+        Due.is("one too many", Due.comes(x, what, 7), Due.FULL);
+        Due.is("one too many, of 100", Due.comes(x, what, 100), Due.BAD);
+        Due.is("one too many, of 0", Due.comes(x, what, 0), Due.BAD);
+        x.empties(what);
+        Due.is("room again", Due.comes(x, what, 7), 0);
+        Due.counts("behind all", x, bad.length + 2, 0, 1);
     }
 
     private static void pointsAsItDid() {
@@ -210,12 +201,16 @@ public final class CalendarTest {
         PoleRecords x = drawn(0, 1, 1);
         Due.is("the 2nd SPAN is gone", x.from(1), Due.BAD);
         Due.is("the 2nd LAYER is gone", x.rate(1), Due.BAD);
+        x.judge(0, 3);
         x.judge(1, 4);
-        x.bound(0, 1, 99);
+        x.judge(2, 6);
+        x.bound(0, 50, 1);
+        x.bound(1, 60, 2);
         Due.types(x, "yea");
-        x.draw(5, 5);
-        Due.is("PACE stays", x.told(8), 4);
-        Due.is("THE TEXT stays", x.told(3), 3);
+        x.draw(82, 3);
+        Due.is("refusals, THE TEXT, THE JUDGE, LOW, HIGH and THE FRACTION stay", x.digest(),
+            Due.hash(2, 0, 0, 3, 3, 3, 0, 3, 4, 6, 6, 10, 19, 6, 11, 21, 50, 1, 60, 2, 0, 1, -1));
+        Due.is("THE TEXT stays", x.reads(), -10);
     }
 
     /** Worked out apart from any Java, by the words of the document. */

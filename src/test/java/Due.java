@@ -50,6 +50,11 @@ final class Due {
         }
     }
 
+    /** A SPAN (what 0) or a LAYER (1) comes. */
+    static int comes(PoleRecords x, int what, int size) {
+        return what == 0 ? x.span(size) : x.layer(size);
+    }
+
     static int[] times(int count, int value) {
         int[] all = new int[count];
         java.util.Arrays.fill(all, value);

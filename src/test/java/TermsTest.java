@@ -36,29 +36,37 @@ public final class TermsTest {
 
     private static void spansSixteenAtMost() {
         Due.says("SPANS 0, 1, .. (16 at most, none at first)");
-        PoleRecords x = new PoleRecords();
-        Due.is("none at first", x.told(4), 0);
-        Due.is("no SPAN 0", x.sets(0, 0, 1), Due.BAD);
-        for (int k = 0; k < 16; k++) {
-            Due.is("SPAN " + k, x.span(1), k);
-        }
-        Due.is("a 17th", x.span(1), Due.FULL);
-        Due.is("16 stay", x.told(4), 16);
-        Due.is("SPAN 15", x.sets(0, 15, 1), 1);
-        Due.is("no SPAN 16", x.sets(0, 16, 1), Due.BAD);
+        comeToTheMost(0, 16);
     }
 
     private static void yearsOneToNinetyNine() {
         Due.says("each with YEARS (1 .. 99)");
+        sizesOneToNinetyNine(0);
+    }
+
+    private static void comeToTheMost(int what, int most) {
         PoleRecords x = new PoleRecords();
-        Due.is("0", x.span(0), Due.BAD);
-        Due.is("100", x.span(100), Due.BAD);
-        Due.is("1", x.span(1), 0);
-        Due.is("99", x.span(99), 1);
-        Due.is("sets 0", x.sets(0, 0, 0), Due.BAD);
-        Due.is("sets 100", x.sets(0, 0, 100), Due.BAD);
-        Due.is("sets 99", x.sets(0, 0, 99), 1);
-        Due.is("sets 1", x.sets(0, 1, 1), 99);
+        Due.is("none at first", x.told(4 + what), 0);
+        Due.is("no first", x.sets(what, 0, 1), Due.BAD);
+        for (int k = 0; k < most; k++) {
+            Due.is("number " + k, Due.comes(x, what, 1), k);
+        }
+        Due.is("one too many", Due.comes(x, what, 1), Due.FULL);
+        Due.is("the most stay", x.told(4 + what), most);
+        Due.is("the last", x.sets(what, most - 1, 1), 1);
+        Due.is("none behind it", x.sets(what, most, 1), Due.BAD);
+    }
+
+    private static void sizesOneToNinetyNine(int what) {
+        PoleRecords x = new PoleRecords();
+        Due.is("0", Due.comes(x, what, 0), Due.BAD);
+        Due.is("100", Due.comes(x, what, 100), Due.BAD);
+        Due.is("1", Due.comes(x, what, 1), 0);
+        Due.is("99", Due.comes(x, what, 99), 1);
+        Due.is("sets 0", x.sets(what, 0, 0), Due.BAD);
+        Due.is("sets 100", x.sets(what, 0, 100), Due.BAD);
+        Due.is("sets 99", x.sets(what, 0, 99), 1);
+        Due.is("sets 1", x.sets(what, 1, 1), 99);
     }
 
     private static void spansPointByTurns() {
@@ -74,29 +82,12 @@ public final class TermsTest {
 
     private static void layersEightAtMost() {
         Due.says("LAYERS 0, 1, .. (8 at most, none at first)");
-        PoleRecords x = new PoleRecords();
-        Due.is("none at first", x.told(5), 0);
-        Due.is("no LAYER 0", x.sets(1, 0, 1), Due.BAD);
-        for (int k = 0; k < 8; k++) {
-            Due.is("LAYER " + k, x.layer(1), k);
-        }
-        Due.is("a 9th", x.layer(1), Due.FULL);
-        Due.is("8 stay", x.told(5), 8);
-        Due.is("LAYER 7", x.sets(1, 7, 1), 1);
-        Due.is("no LAYER 8", x.sets(1, 8, 1), Due.BAD);
+        comeToTheMost(1, 8);
     }
 
     private static void thicknessOneToNinetyNine() {
         Due.says("each with a THICKNESS (1 .. 99)");
-        PoleRecords x = new PoleRecords();
-        Due.is("0", x.layer(0), Due.BAD);
-        Due.is("100", x.layer(100), Due.BAD);
-        Due.is("1", x.layer(1), 0);
-        Due.is("99", x.layer(99), 1);
-        Due.is("sets 0", x.sets(1, 0, 0), Due.BAD);
-        Due.is("sets 100", x.sets(1, 0, 100), Due.BAD);
-        Due.is("sets 99", x.sets(1, 0, 99), 1);
-        Due.is("sets 1", x.sets(1, 1, 1), 99);
+        sizesOneToNinetyNine(1);
     }
 
     private static void layersPointByTurns() {
@@ -386,6 +377,13 @@ public final class TermsTest {
         Due.is("5 years alone", x.many(), 1);
         Due.is("no SECOND", x.match(1, 0), Due.NO);
         Due.is("THE MATCH is there", x.match(0, 0), 4);
+        PoleRecords y = Due.with(new int[] {1, 1, 1}, new int[] {3});
+        Due.blocks("THE MATCH", y, 0, 3);
+        Due.blocks("THE SECOND, from the same first SPAN", y, 1, 1);
+        Due.is("THE SECOND's first SPAN", y.match(1, 1), 0);
+        PoleRecords z = Due.with(new int[] {4, 1, 1, 9, 1, 1}, new int[] {4, 9});
+        Due.blocks("THE MATCH, 0 and 2 off", z, 0, 1, 3);
+        Due.blocks("THE SECOND, 2 off, then the best there", z, 1, 3, 1);
     }
 
     private static void tiesOfMatch() {
